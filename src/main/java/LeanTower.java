@@ -927,19 +927,16 @@ public final class LeanTower {
             super(number, burden, pace);
         }
 
-        @Override
         int ownKind() {
             return PILGRIM;
         }
 
-        @Override
         int size(Trace bodies) {
             bodies.leave(11);
             int lent = super.size(bodies);
             return lent + mark(bodies);
         }
 
-        @Override
         int mark(Trace bodies) {
             bodies.leave(21);
             return super.mark(bodies) + pace;
@@ -951,12 +948,10 @@ public final class LeanTower {
             super(number, 2 * weight, pace);
         }
 
-        @Override
         int ownKind() {
             return WIDOW;
         }
 
-        @Override
         int mark(Trace bodies) {
             bodies.leave(22);
             return super.mark(bodies) - 1000;
@@ -968,18 +963,15 @@ public final class LeanTower {
             super(number, weight / 2, pace);
         }
 
-        @Override
         int ownKind() {
             return BOY;
         }
 
-        @Override
         int size(Trace bodies) {
             bodies.leave(12);
             return -super.size(bodies);
         }
 
-        @Override
         int mark(Trace bodies) {
             bodies.leave(24);
             return 2 * super.mark(bodies);
@@ -991,23 +983,19 @@ public final class LeanTower {
             super(number, burden, pace);
         }
 
-        @Override
         int ownKind() {
             return MONK;
         }
 
-        @Override
         int stride() {
             return 2;
         }
 
-        @Override
         int size(Trace bodies) {
             bodies.leave(13);
             return super.size(bodies) - 100;
         }
 
-        @Override
         int mark(Trace bodies) {
             bodies.leave(23);
             int lent = super.mark(bodies);
@@ -1020,18 +1008,15 @@ public final class LeanTower {
             super(number, weight + 5, pace);
         }
 
-        @Override
         int ownKind() {
             return BISHOP;
         }
 
         /** He is asked as a MONK is, but goes as others do. */
-        @Override
         int stride() {
             return 1;
         }
 
-        @Override
         int size(Trace bodies) {
             bodies.leave(14);
             return 2 * super.size(bodies);
@@ -1271,6 +1256,8 @@ public final class LeanTower {
 
     /** BELLS: all orders are tried, the first ones first. */
     private static final class Bells {
+        private static final int ABOVE_ANY_SUM = MOST_BELLS * MOST_NOD + 1;
+
         private final int[] nods = new int[MOST_BELLS];
         private final int[] order = new int[MOST_BELLS];
         private int bells;
@@ -1282,7 +1269,7 @@ public final class LeanTower {
             for (int i = 0; i < bells && i < row.length; i++) {
                 nods[i] = row[i];
             }
-            least = Integer.MAX_VALUE;
+            least = ABOVE_ANY_SUM;
             ringFrom(0, 0, 0, 0);
         }
 
