@@ -229,6 +229,12 @@ public final class PromiseTest {
         fault("law 4 1;" + (char) 225, 8, 1);
         fault("Law 4 1;", 0, 1);
         fault("lawn 4 1;", 0, 1);
+        fault("lawz 4 1;", 0, 1);
+        fault("paw 4 1;", 0, 1);
+        fault("law` 4 1;", 3, 1);
+        fault("law{ 4 1;", 3, 1);
+        fault("law 4/ 1;", 5, 1);
+        fault("law 4: 1;", 5, 1);
         fault("4 1;", 0, 1);
         fault("law 3 1;", 4, 2);
         fault("law 33 1;", 4, 2);
@@ -247,12 +253,15 @@ public final class PromiseTest {
         fault("law 4 1;person person 1 1 0;", 15, 1);
         fault("law 4 1;person 1 1 0;", 15, 1);
         fault("law 4 1;person boy 21 9 9;", 19, 2);
+        fault("law 4 1;person boy 0 1 0;", 19, 2);
+        fault("law 4 1;person boy 1 0 0;", 21, 2);
         fault("law 4 1;person boy 1 5 0;", 21, 2);
         fault("law 4 1;person boy 1 1 4;", 23, 2);
         fault("law 4 1;person boy 1 1 98;", 23, 2);
         fault("law 4 1;person boy 1 1;", 22, 1);
         fault("law 4 1;stone 1 4;", 16, 2);
         fault("law 4 1;stone 0 1;", 14, 2);
+        fault("law 4 1;stone 21 1;", 14, 2);
         fault("law 4 1;stone 1 1;person boy 1 1 0;", 18, 1);
         fault(seven + "person", seven.length(), 3);
         fault(seven + "stone 1 1;person", seven.length() + 10, 1);
@@ -389,6 +398,33 @@ public final class PromiseTest {
         y.undo();
         is("not beyond, a year more", y.year(), 1);
         is("full again", y.year(), FULL);
+        for (int side = 0; side < 4; side++) {
+            int sign = side < 2 ? 1 : -1;
+            LeanTower v = creptFar(side, "law 8 99;stone 10 0;stone 10 0;stone 10 0;", 38, 41);
+            is("crept just 9999", v.lean(3 + side % 2), sign * 9999);
+            is("a year more", v.year(), 1);
+            LeanTower w = creptFar(side, "law 8 99;stone 13 0;stone 10 0;stone 11 0;", 47, 28);
+            is("crept 10000", w.lean(3 + side % 2), sign * 10000);
+            is("full from there", w.year(), FULL);
+        }
+    }
+
+    /** Years with its first stone on a side, the others even aside; then years with these against it. */
+    private static LeanTower creptFar(int side, String text, int early, int late) {
+        LeanTower x = Due.tower(text);
+        x.hang(0, side);
+        x.hang(1, (side + 1) % 4);
+        x.hang(2, (side + 3) % 4);
+        for (int i = 0; i < early; i++) {
+            x.year();
+        }
+        x.hang(0, (side + 1) % 4);
+        x.hang(1, (side + 2) % 4);
+        x.hang(2, (side + 2) % 4);
+        for (int i = 0; i < late; i++) {
+            x.year();
+        }
+        return x;
     }
 
     private static void undo() {
@@ -487,12 +523,19 @@ public final class PromiseTest {
         is("the last half counts", bothGoDown(15).worst(0), 10);
         is("none behind it", bothGoDown(16).worst(1), NONE);
         is("none behind it", bothGoDown(16).worst(0), 1);
+        LeanTower t = bothGoDown(16);
+        t.halves(3);
+        is("the 65th is none", t.worst(1), NONE);
+        is("the 65th is none", t.worst(0), 1);
+        is("the 65th is none for most", t.most(), 28);
+        is("the 65th is none for stones", t.stones(-1), 1);
+        is("the 65th is none for two", t.two(3, 4, 0), 1);
         is("the last half counts for most", bothGoDown(15).most(), NONE);
-        is("none behind it for most", bothGoDown(16).most(), 12);
+        is("none behind it for most", bothGoDown(16).most(), 28);
         is("the last half counts for stones", bothGoDown(15).stones(-1), 9);
         is("none behind it for stones", bothGoDown(16).stones(-1), 1);
         is("the last half counts for two", bothGoDown(15).two(2, 3, 1), 10);
-        is("none behind it for two", bothGoDown(16).two(2, 3, 1), 1);
+        is("none behind it for two", bothGoDown(16).two(2, 3, 1), 5);
         LeanTower v = Due.tower("law 32 9;person pilgrim 1 4 0;person pilgrim 9 4 0;person pilgrim 1 4 16;");
         v.go(2, -1);
         is("now counts", v.worst(1), 0);
@@ -505,7 +548,7 @@ public final class PromiseTest {
     /** Two who hold each other upright, until the lower one is outside, a step in four halves. */
     private static LeanTower bothGoDown(int step) {
         LeanTower x = Due.tower("law 32 9;person pilgrim 10 4 " + step + ";person pilgrim 10 4 " + (step + 2)
-                + ";person boy 1 1 99;person boy 1 1 99;stone 1 0;");
+                + ";person boy 1 1 99;person pilgrim 4 1 99;person pilgrim 4 1 99;stone 1 0;");
         x.go(0, -1);
         x.go(1, -1);
         return x;
