@@ -16,6 +16,10 @@ final class Due {
         }
     }
 
+    int calls() {
+        return calls;
+    }
+
     /** Prints how many there were, and ends with exit code 1 if one was wrong. */
     void end() {
         System.out.println(test + ": " + calls + " answers, " + wrong + " wrong");
