@@ -11,6 +11,7 @@ import java.util.TreeMap;
 import java.util.TreeSet;
 import java.util.regex.Matcher;
 import java.util.regex.Pattern;
+import java.util.stream.Stream;
 
 /** What of ../shared/LANGUAGE.md a test can see: the face, and words that the program does without. */
 public final class LanguageTest {
@@ -28,6 +29,7 @@ public final class LanguageTest {
         face();
         nested();
         words();
+        oneFile();
         due.end();
     }
 
@@ -84,5 +86,19 @@ public final class LanguageTest {
             due.is("without " + word, m.find() ? 1 : 0, 0);
         }
         due.is("signs 1 to 127", source.chars().allMatch(c -> c > 0 && c < 128) ? 1 : 0, 1);
+    }
+
+    /** Nothing that is built or tried out beside the program may be left in the project. */
+    private static void oneFile() throws Exception {
+        Set<String> programs = new TreeSet<>();
+        Set<String> tests = new TreeSet<>();
+        try (Stream<Path> all = Files.walk(Path.of(""))) {
+            for (Path file : all.filter(f -> f.toString().endsWith(".java")).toList()) {
+                String name = file.toString().replace('\\', '/');
+                (name.startsWith("src/test/java/") ? tests : programs).add(name);
+            }
+        }
+        due.is("the program is one file " + programs, programs.equals(Set.of("src/main/java/LeanTower.java")) ? 1 : 0, 1);
+        due.is("no test bears the program's name", tests.stream().anyMatch(t -> t.endsWith("/LeanTower.java")) ? 1 : 0, 0);
     }
 }
