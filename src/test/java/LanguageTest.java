@@ -29,6 +29,8 @@ public final class LanguageTest {
         face();
         nested();
         words();
+        library();
+        lengths();
         oneFile();
         due.end();
     }
@@ -47,6 +49,10 @@ public final class LanguageTest {
             }
         }
         due.is("the face " + open, open.equals(new TreeSet<>(FACE)) ? 1 : 0, 1);
+        for (Method m : LeanTower.class.getDeclaredMethods()) {
+            boolean named = FACE.stream().anyMatch(told -> told.startsWith(m.getName() + " "));
+            due.is(m + " is hidden and bears a public name", isHidden(m.getModifiers()) && named ? 1 : 0, 0);
+        }
         for (Field f : LeanTower.class.getDeclaredFields()) {
             boolean told = Set.of("NONE", "BAD", "STATE", "FULL").contains(f.getName());
             due.is(f + " is hidden", isHidden(f.getModifiers()) ? 1 : 0, told ? 0 : 1);
@@ -65,7 +71,12 @@ public final class LanguageTest {
         Map<String, Integer> sizes = new TreeMap<>();
         for (Class<?> c : LeanTower.class.getDeclaredClasses()) {
             due.is(c + " is static", Modifier.isStatic(c.getModifiers()) ? 1 : 0, 1);
-            sizes.put(c.getSimpleName(), c.getDeclaredFields().length);
+            int fields = 0;
+            for (Field f : c.getDeclaredFields()) {
+                fields += Modifier.isStatic(f.getModifiers()) ? 0 : 1;
+            }
+            sizes.put(c.getSimpleName(), fields);
+            due.is(c + " has some twenty fields at most", fields <= 20 ? 1 : 0, 1);
             for (Method m : c.getDeclaredMethods()) {
                 due.is(m + " bears a name of its own", names.contains(m.getName()) ? 1 : 0, 0);
                 due.is(m + " takes at most seven", m.getParameterCount() <= 7 ? 1 : 0, 1);
@@ -78,14 +89,61 @@ public final class LanguageTest {
         due.is("some twelve classes at most " + sizes, sizes.size() < 12 ? 1 : 0, 1);
     }
 
+    private static String source() throws Exception {
+        return Files.readString(Path.of("src/main/java/LeanTower.java"));
+    }
+
+    /** Without its comments, whose words are free. */
+    private static String code() throws Exception {
+        return source().replaceAll("(?s)/\\*.*?\\*/", "").replaceAll("//[^\n]*", "");
+    }
+
     private static void words() throws Exception {
-        String source = Files.readString(Path.of("src/main/java/LeanTower.java"));
-        String code = source.replaceAll("(?s)/\\*.*?\\*/", "").replaceAll("//[^\n]*", "");
+        String source = source();
+        String code = code();
         for (String word : WITHOUT) {
             Matcher m = Pattern.compile(word).matcher(code);
             due.is("without " + word, m.find() ? 1 : 0, 0);
         }
         due.is("signs 1 to 127", source.chars().allMatch(c -> c > 0 && c < 128) ? 1 : 0, 1);
+    }
+
+    /** All that is called on a class by its name is the program's own, or stands in rule 4. */
+    private static void library() throws Exception {
+        Set<String> allowed = Set.of("Math.abs", "Math.max", "Math.min", "Integer.bitCount", "System.arraycopy");
+        Set<String> own = new TreeSet<>();
+        for (Class<?> c : LeanTower.class.getDeclaredClasses()) {
+            own.add(c.getSimpleName());
+        }
+        Matcher m = Pattern.compile("\\b([A-Z][a-z]\\w*)\\.\\w+").matcher(code());
+        int calls = 0;
+        while (m.find()) {
+            calls++;
+            due.is(m.group() + " may be used", allowed.contains(m.group()) || own.contains(m.group(1)) ? 1 : 0, 1);
+        }
+        due.is("the library is used", calls > 0 ? 1 : 0, 1);
+    }
+
+    /** A method begins at a line that ends in ") {" at the depth of members, and ends at its own brace. */
+    private static void lengths() throws Exception {
+        int methods = 0;
+        int longest = 0;
+        String end = null;
+        int begun = 0;
+        String[] lines = code().split("\n");
+        for (int i = 0; i < lines.length; i++) {
+            Matcher m = Pattern.compile("^( {4}| {8})\\w.*\\) \\{$").matcher(lines[i]);
+            if (end == null && m.find()) {
+                end = m.group(1) + "}";
+                begun = i;
+                methods++;
+            } else if (lines[i].equals(end)) {
+                longest = Math.max(longest, i - begun + 1);
+                end = null;
+            }
+        }
+        due.is("methods are found", methods > 80 ? 1 : 0, 1);
+        due.is("a method has at most sixty lines, the longest " + longest, longest <= 60 ? 1 : 0, 1);
     }
 
     /** Nothing that is built or tried out beside the program may be left in the project. */
